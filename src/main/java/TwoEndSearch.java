@@ -18,6 +18,7 @@ public final class TwoEndSearch {
     private static final int DIGIT_MASK = 7;
     private static final int END_DIGIT = 7;
     private static final int LONG_DIGITS = 21;
+    private static final int INT_BITS = 32;
     private static final int ONCE = 0;
     private static final int POWERS = 1;
     private static final int NONE = -1;
@@ -107,7 +108,7 @@ public final class TwoEndSearch {
             return NONE;
         }
         Ball ahead = begunSearch().ahead(measure);
-        ahead.growTo(Integer.MAX_VALUE);
+        ahead.growWhole();
         return ahead.depth;
     }
 
@@ -308,7 +309,7 @@ public final class TwoEndSearch {
                 bits++;
             }
             slots = new int[1 << bits];
-            hashShift = Integer.SIZE - bits;
+            hashShift = INT_BITS - bits;
         }
 
         /** From the newest state back: what one has stepped over in the table is then still there. */
@@ -339,11 +340,10 @@ public final class TwoEndSearch {
         }
 
         int follow(int way, int from) {
-            int to = links[way][from];
-            return to == UNKNOWN ? link(way, from) : to;
-        }
-
-        private int link(int way, int from) {
+            int known = links[way][from];
+            if (known != UNKNOWN) {
+                return known;
+            }
             int to = enter(moves.bring(way, states[from]));
             int undoing = way < MOST_MOVES ? way + MOST_MOVES : way - MOST_MOVES;
             links[way][from] = to;
@@ -429,11 +429,15 @@ public final class TwoEndSearch {
             return !complete;
         }
 
-        /** There are no more layers than states. */
         void growTo(int distance) {
             for (int tried = 0; tried < far.length && depth < distance && !complete; tried++) {
                 grow();
             }
+        }
+
+        /** No state lies as many steps away as there are states. */
+        void growWhole() {
+            growTo(far.length);
         }
 
         int sizeOfLayer(int distance) {

@@ -79,23 +79,26 @@ public final class FaceAndRoomTest {
         }
     }
 
-    /** All states of eight places, six moves of the greatest order; each search behind a change. */
+    /** All orders of eight labels, five moves of the greatest order and a swap; a change before each search. */
     private static long dearestRun(int kind) {
         TwoEndSearch x = new TwoEndSearch(8);
         int calls = 0;
-        for (int move = 0; move < 6; move++) {
+        for (int move = 0; move < 5; move++) {
             x.move();
-            calls++;
             for (int i = 1; i < 8; i++) {
-                if (i != 5) {
-                    x.cycle(move, (move + (i < 5 ? 0 : 5)) % 8, (move + i) % 8);
-                    calls++;
-                }
+                x.cycle(move, (move + (i < 5 ? 0 : 5)) % 8, (move + i) % 8);
             }
+            calls += 8;
+        }
+        x.cycle(x.move(), 0, 1);
+        calls += 2;
+        for (int place = 0; place < 8; place++) {
+            x.label(true, place, 7 - place);
+            calls++;
         }
         long sum = 0;
         for (; calls + 2 <= CALLS; calls += 2) {
-            x.label(kind == 3, calls % 8, calls / 2 % 8);
+            x.label(false, 0, 0);
             sum += switch (kind) {
                 case 0 -> x.deepest(1);
                 case 1 -> x.deepest(0);

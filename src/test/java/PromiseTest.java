@@ -257,6 +257,14 @@ public final class PromiseTest {
         labels(x, true, 0, 1, 2, 3, 4, 5, 6, 6);
         due("other labels", x.run(0, 99), -1);
 
+        TwoEndSearch other = new TwoEndSearch(8);
+        round(other, 0, 1);
+        round(other, 0, 1, 2, 3, 4, 5, 6, 7);
+        labels(other, true, 1, 1, 2, 3, 4, 5, 6, 6);
+        due("other labels of the same sum", other.run(0, 99), -1);
+        due("other labels of the same sum, in powers", other.run(1, 99), -1);
+        due("as deep as without that search", other.deepest(0), 35);
+
         TwoEndSearch odd = new TwoEndSearch(4);
         round(odd, 0, 1, 2);
         round(odd, 1, 2, 3);
@@ -268,6 +276,12 @@ public final class PromiseTest {
         }
         due("the whole half", half, 12);
         due("again behind spread", odd.run(0, 99), -1);
+        TwoEndSearch two = new TwoEndSearch(4);
+        round(two, 0, 1);
+        round(two, 2, 3);
+        labels(two, true, 1, 0, 3, 2);
+        due("two steps, most 1", two.run(0, 1), -1);
+        due("two steps, most 2", two.run(0, 2), 2);
     }
 
     private static void runRefused() {
@@ -375,6 +389,7 @@ public final class PromiseTest {
         due("6 ^ 14 ways", equal.ways(), 78364164096L);
 
         TwoEndSearch few = farApart(1, 1);
+        due("very far, most of just less", few.run(0, 43), -1);
         due("very far", few.run(0, 44), 44);
         due("ways of single moves", few.ways(), 8);
         TwoEndSearch many = farApart(3, 3);
