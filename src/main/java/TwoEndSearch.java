@@ -31,14 +31,15 @@ public final class TwoEndSearch {
     private final Moves moves;
     private int start;
     private int goal;
-    /** Null until something is searched, so that an object without searches stays small. */
-    private Search search;
+    /** Has all rows that a call needs from the beginning on: no call makes any. */
+    private final Search search;
 
     public TwoEndSearch(int places) {
         this.places = Math.max(1, Math.min(MOST_PLACES, places));
         moves = new Moves(this.places);
         start = firstState(this.places);
         goal = start;
+        search = new Search(this.places, moves);
     }
 
     public int move() {
@@ -83,7 +84,7 @@ public final class TwoEndSearch {
     }
 
     public int step(int k, boolean times) {
-        if (search == null || k < 0 || k >= search.length) {
+        if (k < 0 || k >= search.length) {
             return NONE;
         }
         int taken = search.row[k];
@@ -91,7 +92,7 @@ public final class TwoEndSearch {
     }
 
     public long ways() {
-        return search == null ? 0 : search.ways;
+        return search.ways;
     }
 
     public int spread(int measure, int steps) {
@@ -140,25 +141,18 @@ public final class TwoEndSearch {
     }
 
     private Search begunSearch() {
-        if (search == null) {
-            search = new Search(places, moves);
-        }
         search.begin(start);
         return search;
     }
 
     private void forgetAll() {
-        if (search != null) {
-            search.begun = false;
-            search.forgetRow();
-        }
+        search.begun = false;
+        search.forgetRow();
     }
 
     /** Another goal leaves all that is known of how far states lie from THE START. */
     private void forgetFound() {
-        if (search != null) {
-            search.forgetRow();
-        }
+        search.forgetRow();
     }
 
     private static boolean isMeasure(int measure) {
