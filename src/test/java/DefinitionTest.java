@@ -9,8 +9,13 @@ import java.util.Map;
  * document's definitions; where a search is small, all rows are listed one by one besides.
  */
 public final class DefinitionTest {
+    private static final int PROMISED_CALLS = 512;
+    /** No draw makes more: a goal, a search and a row of far less than fifty steps. */
+    private static final int CALLS_OF_A_DRAW = 120;
     private static int wrong = 0;
     private static long asked = 0;
+    /** Calls on the object of this run. */
+    private static int made;
     private static long seed;
 
     private static int draw(int below) {
@@ -39,6 +44,8 @@ public final class DefinitionTest {
 
     private static void due(int run, String call, long got, long want) {
         asked++;
+        // Below 0 are the questions that the model puts to itself.
+        made += run >= 0 ? 1 : 0;
         if (got != want) {
             wrong++;
             if (wrong <= 40) {
@@ -50,12 +57,13 @@ public final class DefinitionTest {
     private static void oneRun(int run, int places, int calls) {
         TwoEndSearch x = new TwoEndSearch(places);
         Model model = new Model(places);
+        made = 0;
         // Few changes where searches are dear, so that many answers come from each.
         int changes = places > 5 ? 4 : 12;
         if (places > 5) {
             calls -= prepare(run, x, model);
         }
-        for (int call = 0; call < calls; call++) {
+        for (int call = 0; call < calls && made <= PROMISED_CALLS - CALLS_OF_A_DRAW; call++) {
             int kind = draw(30);
             if (kind < changes) {
                 change(run, x, model, kind);
@@ -90,6 +98,7 @@ public final class DefinitionTest {
                 if (draw(20) == 0) {
                     x.clear();
                     model.clear();
+                    made++;
                 }
             }
             case 1 -> due(run, "move()", x.move(), model.move());

@@ -156,8 +156,8 @@ public final class FaceAndRoomTest {
             case 14 -> x.move();
             case 15 -> bit(x.cycle(0, 0, 1));
             case 16 -> bit(x.label(true, 8, 8));
-            case 17 -> x.run(2, -1) + x.step(-1, false);
-            case 18 -> x.spread(-1, -1) + x.deepest(2);
+            case 17 -> measure == 0 ? x.run(2, -1) : x.step(-1, false);
+            case 18 -> measure == 0 ? x.spread(-1, -1) : x.deepest(2);
             default -> bit(x.label(false, 0, 0));
         };
     }
